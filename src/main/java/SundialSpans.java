@@ -237,18 +237,13 @@ public final class SundialSpans {
             return BAD_TEXT;
         }
         history.draft(court);
-        int carried = carryOrders();
-        pad.clear();
-        return history.keep(carried);
-    }
-
-    private int carryOrders() {
         int carried = 0;
         pad.startReading();
         while (carried < MOST_SIGNS && pad.nextOrder() && !isError(carryOrder())) {
             carried++;
         }
-        return carried;
+        pad.clear();
+        return history.keep(carried);
     }
 
     private int carryOrder() {
@@ -585,11 +580,14 @@ public final class SundialSpans {
         }
 
         int bestHigh() {
-            return lastTimeOf(most(), bestLow());
+            int most = most();
+            return lastTimeOf(most, firstTimeOf(most));
         }
 
         int hour() {
-            return Math.floorDiv(bestLow() + bestHigh(), 2);
+            int most = most();
+            int low = firstTimeOf(most);
+            return Math.floorDiv(low + lastTimeOf(most, low), 2);
         }
 
         int ends() {
@@ -617,13 +615,16 @@ public final class SundialSpans {
             return below;
         }
 
-        /** Keys stand in the order of the ends: by time, then the side, then the dial. No two are the same. */
         private int keyAt(int index) {
             if (index < size) {
-                return lows[index] * ENDS_OF_KEY + LOW_SIDE * DIALS_OF_KEY + owners[index];
+                return keyOf(lows[index], LOW_SIDE, owners[index]);
             }
-            int span = index - size;
-            return highs[span] * ENDS_OF_KEY + HIGH_SIDE * DIALS_OF_KEY + owners[span];
+            return keyOf(highs[index - size], HIGH_SIDE, owners[index - size]);
+        }
+
+        /** Keys stand in the order of the ends: by time, then the side, then the dial. No two are the same. */
+        private static int keyOf(int time, int side, int dial) {
+            return time * ENDS_OF_KEY + side * DIALS_OF_KEY + dial;
         }
 
         static int timeOfKey(int key) {
@@ -821,8 +822,6 @@ public final class SundialSpans {
                 return false;
             }
             kind = sign();
-            first = 0;
-            second = 0;
             third = 0;
             if (take('d') || take('a')) {
                 return true;

@@ -1,3 +1,5 @@
+import java.util.Arrays;
+
 /** Promise 22: undo. */
 final class Promise22UndoTest {
     public static void main(String[] args) {
@@ -5,6 +7,8 @@ final class Promise22UndoTest {
         SundialSpans fresh = new SundialSpans();
         check.due("undo() of nothing", fresh.undo(), Check.NOT_POSSIBLE);
         sixStates(check);
+        errorsLoseNoState(check);
+        everyKindOfChange(check);
         everythingComesBack(check);
         padAndSlotsStay(check);
         onlyChangesCount(check);
@@ -33,6 +37,56 @@ final class Promise22UndoTest {
         check.due("changes", court.count(9), 2);
         court.undo();
         check.due("time of now", court.count(0), now + 1);
+    }
+
+    private static void errorsLoseNoState(Check check) {
+        SundialSpans court = new SundialSpans();
+        for (int minute = 1; minute <= 6; minute++) {
+            court.pass(1);
+        }
+        court.pass(0);
+        court.set(2, 0);
+        court.agree();
+        court.restore(0);
+        court.carryOut();
+        for (int left = 5; left >= 0; left--) {
+            check.due("undo() after errors", court.undo(), left);
+            check.due("time of now then", court.count(0), left);
+        }
+    }
+
+    private static void everyKindOfChange(Check check) {
+        for (int kind = 0; kind < 7; kind++) {
+            SundialSpans court = Check.withReadings(100, 3, 104, 3, 500, 0);
+            court.save(0);
+            court.pass(61);
+            court.agree();
+            court.pass(1);
+            int[] before = picture(court);
+            change(court, kind);
+            check.holds("change " + kind + " changes something", !Arrays.equals(before, picture(court)));
+            check.due("undo() of change " + kind, court.undo(), 5);
+            same(check, "after undo() of change " + kind, before, picture(court));
+        }
+    }
+
+    private static void change(SundialSpans court, int kind) {
+        if (kind == 0) {
+            court.set(SundialSpans.OFTEN, 9);
+        } else if (kind == 1) {
+            court.dial();
+        } else if (kind == 2) {
+            court.read(1, 700, 9);
+        } else if (kind == 3) {
+            court.pass(5);
+        } else if (kind == 4) {
+            court.agree();
+        } else if (kind == 5) {
+            Check.write(court, "d;t5;a");
+            court.carryOut();
+        } else {
+            court.restore(0);
+        }
     }
 
     private static void everythingComesBack(Check check) {
