@@ -22,8 +22,12 @@ final class Check {
         due(what, isSo ? 1 : 0, 1);
     }
 
+    boolean isFine() {
+        return asked > 0 && wrong == 0;
+    }
+
     void end() {
-        if (asked == 0 || wrong > 0) {
+        if (!isFine()) {
             System.out.println(name + ": " + wrong + " of " + asked + " answers are not as due");
             System.exit(1);
         }

@@ -103,7 +103,7 @@ final class ModelTest {
             int rank = pick(0, 12);
             due("end(" + rank + ", " + what + ")", court.end(rank, what), model.end(rank, what));
         } else if (kind == 8) {
-            int low = court.best(1);
+            int low = model.best(1);
             int time = low > 0 ? low - 100000 + pick(-30, 30) : pick(-300, 20000);
             due("overlap(" + time + ")", court.overlap(time), model.overlap(time));
         } else if (kind == 9) {

@@ -20,7 +20,7 @@ final class Promise14AllowingTest {
         pair(check, Check.withReadings(5, 0, 6, 0), 1, 100005, 100006);
         pair(check, Check.withReadings(5, 0, 6, 0), 0, Check.NONE, Check.NONE);
         pair(check, Check.withReadings(0, 300), 0, 99700, 100300);
-        // From 0 to 3 it is dials 0 and 1, from 4 to 9 dials 1 and 2, at 10 all three.
+        // From 0 to 3 it is dials 0 and 1, from 4 to 10 dials 1 and 2.
         pair(check, Check.withReadings(1, 2, 5, 5, 17, 13), 1, 100000, 100010);
 
         SundialSpans empty = new SundialSpans();
