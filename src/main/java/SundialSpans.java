@@ -351,19 +351,21 @@ public final class SundialSpans {
         }
 
         int lowEnd(int dial, int time) {
-            return told[dial] + ageAt(dial, time) - reachAt(dial, time);
+            int age = ageAt(dial, time);
+            return told[dial] + age - reach(dial, age);
         }
 
         int highEnd(int dial, int time) {
-            return told[dial] + ageAt(dial, time) + reachAt(dial, time);
+            int age = ageAt(dial, time);
+            return told[dial] + age + reach(dial, age);
         }
 
         private int ageAt(int dial, int time) {
             return time - readAt[dial];
         }
 
-        private int reachAt(int dial, int time) {
-            return doubts[dial] + widen * (ageAt(dial, time) / MINUTES_OF_HOUR);
+        private int reach(int dial, int age) {
+            return doubts[dial] + widen * (age / MINUTES_OF_HOUR);
         }
 
         int changeSetting(int setting, int value) {
